@@ -61,9 +61,10 @@ final class Check {
         return walls.match(feed(walls, text));
     }
 
-    /** A new object with a MATCH. */
-    static SnowWalls told(String text) {
+    /** A new object with a MATCH; a ; at the end, where other LINES may be put, is left away. */
+    static SnowWalls told(String lines) {
         SnowWalls walls = new SnowWalls();
+        String text = lines.endsWith(";") ? lines.substring(0, lines.length() - 1) : lines;
         if (match(walls, text) < 1) {
             due("match of " + text + ": fault " + walls.fault() + " at " + walls.where(), 0, 1);
         }

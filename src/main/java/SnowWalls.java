@@ -41,6 +41,7 @@ public final class SnowWalls {
     private final Reader reader;
     private final Game game;
     private final Game league;
+    private final Row leagueWins;
     private final Game[] marks;
     private final Building building;
     private final Trail trail;
@@ -59,6 +60,7 @@ public final class SnowWalls {
         reader = new Reader(tape, match);
         game = new Game(match);
         league = new Game(match);
+        leagueWins = new Row(NEITHER + 1);
         marks = new Game[MARKS];
         for (int i = 0; i < marks.length; i++) {
             marks[i] = new Game(match);
@@ -251,7 +253,8 @@ public final class SnowWalls {
         if (!isLeague(n)) {
             return refuse(BAD_NUMBER);
         }
-        return answer(leagueWins(side, n));
+        playLeague(n);
+        return answer(leagueWins.at(side));
     }
 
     public int fair(int n) {
@@ -263,7 +266,8 @@ public final class SnowWalls {
             refuse(BAD_NUMBER);
             return NO_BALANCE;
         }
-        return answer(leagueWins(LEFT, n) - leagueWins(RIGHT, n));
+        playLeague(n);
+        return answer(leagueWins.at(LEFT) - leagueWins.at(RIGHT));
     }
 
     // ---- throws
@@ -574,16 +578,13 @@ public final class SnowWalls {
         return p != r && areOpposed(p, q) && areOpposed(r, q);
     }
 
-    private int leagueWins(int side, int n) {
-        int many = 0;
+    private void playLeague(int n) {
+        leagueWins.clear();
         for (int i = 0; i < n; i++) {
             league.begin((game.seed + i) % Game.SEEDS, game.snow);
             league.playOut();
-            if (league.winnerNow() == side) {
-                many++;
-            }
+            leagueWins.add(league.winnerNow(), 1);
         }
-        return many;
     }
 
     private int oddsOf(int p, int q, boolean high, int dodge) {

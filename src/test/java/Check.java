@@ -31,6 +31,11 @@ final class Check {
         refused(walls, what, got, -1, trouble);
     }
 
+    /** Makes TROUBLE another one than 0, so that a call that isn't refused is seen to set it back. */
+    static void makeTrouble(SnowWalls walls) {
+        walls.match(-1);
+    }
+
     static void refused(SnowWalls walls, String what, boolean got, int trouble) {
         refused(walls, what, got ? 1 : 0, 0, trouble);
     }

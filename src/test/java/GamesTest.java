@@ -15,7 +15,9 @@ public final class GamesTest {
         overAndWinner();
         playerBlockLeft();
         throwsThatHit();
+        led();
         referees();
+        narrowThrows();
         throwsThatDoNothing();
         bits();
         walls();
@@ -144,11 +146,12 @@ public final class GamesTest {
         Check.due("once more thrown", x.player(0, 2), 1);
         Check.due("SEED behind two draws", x.size(8), 5624);
         Check.due("led(0)", x.led(0), 1);
+        Check.makeTrouble(x);
         Check.due("led(1) throws", Check.ledThrows(x, 1), true);
+        Check.due("trouble, which led leaves", x.trouble(), 2);
         Check.due("led(-1) throws", Check.ledThrows(x, -1), true);
         Check.due("left(1)", x.left(1), 0);
         Check.due("what is out doesn't throw", x.player(1, 1), 1);
-        // the next of them: 24 isn't below a CHANCE of 24, but below 25: flat, FAR 18, dodge 0, arm 0, 1
         x = Check.told(LAW + SNOW + "player a of left at 0,0 arm 0 dodge 0 balls 1;"
             + "player b of right at 1,16 arm 0 dodge 0 balls 1; at 0 a flat b");
         Check.due("CHANCE", x.chance(0, 1, false), 27);
@@ -161,6 +164,22 @@ public final class GamesTest {
         // a: 74, 24 isn't below 10; b: 52, 90 isn't below 22
         Check.due("no HITS", x.sum(3), 0);
         Check.due("SEED behind four draws", x.size(8), 51790);
+    }
+
+    /** Two of the first SIDE out, the first player too. */
+    private static void led() {
+        SnowWalls x = Check.told(LAW + SNOW + "player a of left at 1,5 arm 5 dodge 0 balls 2;"
+            + "player b of left at 1,5 arm 0 dodge 0 balls 1;player c of left at 4,5 arm 0 dodge 0 balls 1;"
+            + "player d of right at 1,6 arm 9 dodge 3 balls 9;at 0 d flat a;at 1 d flat c");
+        x.start(seedThatDraws(90, 70, 0));
+        x.tenth();
+        Check.due("led(0)", x.led(0), 0);
+        Check.due("led(1) throws", Check.ledThrows(x, 1), true);
+        x.tenth();
+        Check.due("left", x.left(0), 1);
+        Check.due("led(0)", x.led(0), 0);
+        Check.due("led(1)", x.led(1), 2);
+        Check.due("led(2) throws", Check.ledThrows(x, 2), true);
     }
 
     private static void referees() {
@@ -192,6 +211,70 @@ public final class GamesTest {
         Check.due("SEED behind a draw for 0", x.size(8), 28652);
     }
 
+    /** CHANCES of 1, PAIRED to the point, and a referee that sees 0 of a hundred or 1. */
+    private static void narrowThrows() {
+        // 70 - 3 * 23 is 1
+        SnowWalls x = Check.told(LAW + SNOW + "player a of left at 0,0 arm 0 dodge 0 balls 1;"
+            + "player b of right at 4,19 arm 0 dodge 0 balls 0;at 0 a high b");
+        Check.due("CHANCE", x.chance(0, 1, true), 1);
+        x.start(seedOfSecond(90, 0));
+        x.tenth();
+        Check.due("a draw of 0 is below 1", x.sum(3), 1);
+        x.start(seedOfSecond(90, 1));
+        x.tenth();
+        Check.due("a draw of 1 isn't", x.sum(3), 0);
+        // PAIRED: flat 95 - 16, whatever dodge is
+        x = Check.told(LAW + SNOW + "player a of left at 1,5 arm 0 dodge 0 balls 1;"
+            + "player c of left at 1,5 arm 0 dodge 0 balls 1; player b of right at 1,9 arm 0 dodge 9 balls 1;"
+            + "at 0 a flat b;at 0 c high b");
+        x.start(seedOfSecond(90, 78));
+        x.tenth();
+        Check.due("a draw of 78 is below 79", x.sum(0), 1);
+        x.start(seedOfSecond(90, 79));
+        x.tenth();
+        Check.due("a draw of 79 isn't", x.sum(0), 2);
+        narrowReferees();
+    }
+
+    private static void narrowReferees() {
+        String two = LAW + SNOW + "player a of left at 1,15 arm 9 dodge 2 balls 2;"
+            + "player b of right at 1,11 arm 0 dodge 0 balls 1; at 0 a flat b; referee 0 sees 9";
+        SnowWalls x = Check.told(two);
+        x.start(seedOfThird(0));
+        x.tenth();
+        Check.due("a draw of 0 is below 100 less 99", x.player(1, 3), 1);
+        x.start(seedOfThird(1));
+        x.tenth();
+        Check.due("a draw of 1 isn't", x.sum(4), 1);
+        x = Check.told(two.replace("1,11", "1,12"));
+        x.start(seedOfThird(0));
+        x.tenth();
+        Check.due("a draw of 0 isn't below 0", x.sum(4), 1);
+    }
+
+    /** A seed whose first draw is below hold, and whose second is this. */
+    private static int seedOfSecond(int hold, int draw) {
+        for (int seed = 0; seed < 65537; seed++) {
+            int first = (75 * seed + 74) % 65537;
+            if (first % 100 < hold && (75 * first + 74) % 65537 % 100 == draw) {
+                return seed;
+            }
+        }
+        return -1;
+    }
+
+    /** A seed whose first draw is below 90, and whose third is this. */
+    private static int seedOfThird(int draw) {
+        for (int seed = 0; seed < 65537; seed++) {
+            int first = (75 * seed + 74) % 65537;
+            int second = (75 * first + 74) % 65537;
+            if (first % 100 < 90 && (75 * second + 74) % 65537 % 100 == draw) {
+                return seed;
+            }
+        }
+        return -1;
+    }
+
     private static void throwsThatDoNothing() {
         SnowWalls x = Check.told(LAW + SNOW + TWO + "player c of left at 1,1 arm 9 dodge 0 balls 0;"
             + "at 0 c flat b; at 0 a flat c; at 0 a high a; at 0 c high b");
@@ -204,7 +287,7 @@ public final class GamesTest {
         x.tenth();
         Check.due("thrown", x.sum(0), 1);
         Check.due("balls", x.player(0, 1), 1);
-        // no draw for a CHANCE of 0; FAR 4 and 12
+        // no draw for a CHANCE of 0: FAR is 4 and 12
         x = Check.told(LAW + SNOW + "player a of left at 0,5 arm 0 dodge 0 balls 2;"
             + "player b of right at 4,17 arm 0 dodge 9 balls 1; at 0 a flat b");
         Check.due("CHANCE", x.chance(0, 1, false), 0);
@@ -306,6 +389,15 @@ public final class GamesTest {
         x = Check.told(two + "at 1 b ducks; at 0 a flat b");
         x.tenth();
         Check.due("ducks in that tenth alone", x.sum(3), 1);
+        x = Check.told(two + "at 0 b ducks; at 0 a flat b; at 1 a flat b");
+        x.start(seedThatDraws(90, 80, 0));
+        x.tenth();
+        Check.due("ducks first", x.sum(3), 0);
+        x.start(0);
+        x.tenth();
+        // SEED 74 draws 24 and 52
+        x.tenth();
+        Check.due("stands again then", x.sum(3), 1);
         // high: 70 less 3 times 19, 3 times 3 less, is 1; 15 more is 16; 2 arms: 24: not below; 3 arms more
         String far = LAW + SNOW + "player a of left at 0,1 arm 3 dodge 0 balls 2;"
             + "player b of right at 0,19 arm 0 dodge 1 balls 0; at 0 a high b";
@@ -353,6 +445,15 @@ public final class GamesTest {
         x = Check.told(three + "at 0 c high b; at 0 c high b");
         x.tenth();
         Check.due("not PAIRED by two high ones", x.sum(3), 0);
+        // not by what was told for the TENTH before: c's two high ones, a's flat one hits the block
+        x = Check.told(three.replace("balls 0", "balls 1").replace("dodge 0 balls 1; player b", "dodge 0 balls 2; player b")
+            + "player d of right at 4,19 arm 1 dodge 1 balls 1; block w of right at 1,7 strong 1;"
+            + "at 0 a flat b; at 1 c high b");
+        x.start(seedThatDrawsTwo(90, 58, 22));
+        x.tenth();
+        Check.due("hit blocks", x.sum(2), 1);
+        x.tenth();
+        Check.due("not PAIRED by what was told before", x.sum(3), 0);
         // TENTH 0: b hits a; TENTH 1: a, that is out, is told flat, so that c's CHANCE is 22 and not 58
         x = Check.told(three.replace("balls 0", "balls 1").replace("right at 1,9 arm 0", "right at 1,9 arm 9")
             + "at 0 b flat a; at 1 c high b; at 1 a flat b");
@@ -374,6 +475,19 @@ public final class GamesTest {
             int third = (75 * second + 74) % 65537;
             int fourth = (75 * third + 74) % 65537 % 100;
             if (first % 100 < hold && third % 100 < hold && fourth < high && fourth >= low) {
+                return seed;
+            }
+        }
+        return -1;
+    }
+
+    /** A seed whose first and second draw are below hold, and whose third is below high, but not below low. */
+    private static int seedThatDrawsTwo(int hold, int high, int low) {
+        for (int seed = 0; seed < 65537; seed++) {
+            int first = (75 * seed + 74) % 65537;
+            int second = (75 * first + 74) % 65537;
+            int third = (75 * second + 74) % 65537 % 100;
+            if (first % 100 < hold && second % 100 < hold && third < high && third >= low) {
                 return seed;
             }
         }
@@ -421,6 +535,10 @@ public final class GamesTest {
         x = Check.told(three + "at 0 a rolls a");
         x.tenth();
         Check.due("none to itself", x.player(0, 1), 2);
+        x = Check.told(three.replace("0 balls 2; player c", "0 balls 1; player c") + "at 0 b rolls a");
+        x.tenth();
+        Check.due("the last ball too", x.player(1, 1), 0);
+        Check.due("the last ball too", x.player(0, 1), 3);
     }
 
     private static void going() {
@@ -492,6 +610,7 @@ public final class GamesTest {
         x = Check.told(longer + two + "at 5 b goes");
         x.finish();
         x.start(0);
+        x.tenth();
         Check.due("nobody WON in a new GAME", x.over(), 0);
         Check.due("x in a new GAME", x.player(1, 0), 1);
     }
@@ -557,7 +676,7 @@ public final class GamesTest {
 
     private static void marks() {
         SnowWalls x = Check.told(LAW + SNOW + "snow 6 wet 9 deep 1; referee 1 sees 6;" + TWO
-            + "block w of left at 1,7 strong 2; at 0 a flat b; at 1 b goes; at 1 b flat a; at 2 a high b");
+            + "block w of left at 1,7 strong 2; at 0 a flat b; at 1 b goes; at 1 b flat a; at 3 b goes");
         Check.refused(x, "back(0)", x.back(0), 1);
         x.tenth();
         Check.due("mark", x.mark(), 0);
@@ -591,6 +710,14 @@ public final class GamesTest {
         Check.due("mark", x.mark(), 3);
         Check.refused(x, "mark of a fifth", x.mark(), 3);
         Check.due("MARKS", x.size(10), 4);
+        // x, of a GAME in its second half
+        x.back(0);
+        x.tenth();
+        x.tenth();
+        x.tenth();
+        Check.due("x", x.player(1, 0), 8);
+        x.back(0);
+        Check.due("x by a MARK", x.player(1, 0), 9);
         // a MARK isn't touched by what is done behind it
         x.finish();
         x.back(3);
@@ -648,8 +775,12 @@ public final class GamesTest {
         Check.refused(x, "wins(-1, 0)", x.wins(-1, 0), 1);
         Check.refused(x, "wins(0, 0)", x.wins(0, 0), 2);
         Check.refused(x, "wins(0, 61)", x.wins(0, 61), 2);
+        x.over();
         Check.refused(x, "fair(0)", x.fair(0), -1000, 2);
+        x.over();
         Check.refused(x, "fair(61)", x.fair(61), -1000, 2);
+        x = new SnowWalls();
+        Check.refused(x, "fair(0) without a MATCH", x.fair(0), -1000, 1);
     }
 
     private static void leaguesInTheHour() {

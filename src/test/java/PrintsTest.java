@@ -110,7 +110,9 @@ public final class PrintsTest {
     private static void likely() {
         SnowWalls x = Check.told(FOUR + "guess g weighs 7 flat 5 high 2;guess h weighs 99 flat 10 high 0;"
             + "guess i weighs 2 flat 0 high 0");
+        Check.makeTrouble(x);
         Check.due("nothing SEEN", x.likely(0), 7);
+        Check.due("trouble", x.trouble(), 0);
         x.see(0);
         Check.due("flat", x.likely(0), 35);
         x.see(1);

@@ -14,6 +14,7 @@ public final class TextTest {
         promise2();
         promise3();
         promise3Beginning();
+        promise3Anew();
         promise4();
         promise5();
         tokens();
@@ -127,6 +128,24 @@ public final class TextTest {
         Check.refused(x, "back(0) in a new MATCH", x.back(0), 1);
     }
 
+    private static void promise3Anew() {
+        SnowWalls x = Check.told(WHOLE + ";block b of left at 1,2 strong 1;site s of left at 1,2 takes 1;"
+            + "print of left at 1,2;guess g weighs 3 flat 1 high 1;at 0 p makes;referee 1 sees 1");
+        x.see(0);
+        Check.due("the same NAMES anew", Check.match(x, WHOLE), 1);
+        int[] due = {1, 0, 0, 0, 0, 0, 1};
+        for (int what = 0; what < due.length; what++) {
+            Check.due("size(" + what + ") of a new MATCH", x.size(what), due[what]);
+        }
+        Check.match(x, WHOLE + ";guess h weighs 3 flat 1 high 1");
+        Check.due("nothing SEEN in a new MATCH", x.likely(0), 3);
+        // a player at whom a referee would look away: there is none any more
+        Check.match(x, LAW + ";snow 1 wet 5 deep 1;" + PLAYER + ";player q of right at 1,3 arm 1 dodge 1 balls 1;at 0 p flat q");
+        x.tenth();
+        Check.due("HITS", x.sum(3), 1);
+        Check.due("no referee in a new MATCH", x.sum(4), 0);
+    }
+
     private static void promise4() {
         SnowWalls x = new SnowWalls();
         Check.match(x, "snow 24");
@@ -226,6 +245,7 @@ public final class TextTest {
             Check.due("a player " + word, Check.match(x, WHOLE.replace("player p", "player " + word)
                 + "; at 1 " + word + " rolls " + word), 1);
         }
+        allNames();
         String[] others = {"block p of right at 1,2 strong 1", "site p of left at 1,2 takes 1",
             "player p of right at 1,2 arm 1 dodge 1 balls 1", "guess p weighs 1 flat 1 high 1"};
         for (String line : others) {
@@ -242,6 +262,27 @@ public final class TextTest {
         Check.fault(PLAYER + ";block b of left at 1,2 strong 1;at 1 p rolls b", 2, PLAYER.length() + 46);
         Check.fault(LAW + ";law ?", 3, LAW.length() + 1);
         Check.fault("referee 1 sees 1;referee 1 sees 1", 3, 17);
+    }
+
+    /** As many NAMES as there is room for, of 854 bytes in all. */
+    private static void allNames() {
+        StringBuilder text = new StringBuilder("law carry1line1tenths1thaws1;snow1wet1deep1");
+        for (char name = 'a'; name <= 'z'; name++) {
+            if (name < 'i') {
+                text.append(";player ").append(name).append(" of left at0,0arm0dodge0balls0");
+            } else if (name < 'q') {
+                text.append(";block ").append(name).append(" of left at0,0strong1");
+            } else if (name < 'w') {
+                text.append(";site ").append(name).append(" of left at0,0takes1");
+            } else {
+                text.append(";guess ").append(name).append(" weighs1flat0high0");
+            }
+        }
+        SnowWalls x = new SnowWalls();
+        Check.due("all NAMES", Check.match(x, text.toString()), 8);
+        Check.due("all NAMES once more", Check.match(x, text.toString()), 8);
+        Check.due("guesses", x.size(4), 4);
+        Check.fault(text + ";at1z", 2, text.length() + 4);
     }
 
     /** A LINE, with # where a WHOLE from lowest to highest must stand. */

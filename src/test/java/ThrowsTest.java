@@ -99,7 +99,9 @@ public final class ThrowsTest {
 
     private static void dash() {
         SnowWalls x = new SnowWalls();
+        Check.makeTrouble(x);
         Check.due("none hits", x.dash(1, 2, 30), 4900);
+        Check.due("trouble behind it", x.trouble(), 0);
         Check.due("fewer than two hit", x.dash(2, 2, 30), 4900 + 2 * 30 * 70);
         Check.due("fewer than three hit", x.dash(3, 2, 30), 10000);
         Check.due("fewer than two of three", x.dash(2, 3, 10), 729000 + 3 * 81000);
@@ -119,6 +121,7 @@ public final class ThrowsTest {
 
     private static void runners() {
         SnowWalls x = new SnowWalls();
+        Check.makeTrouble(x);
         Check.due("one of 49 hundredths", x.runners(2, 30, 49), 1);
         Check.due("two of 50", x.runners(2, 30, 50), 2);
         Check.due("two of 91", x.runners(2, 30, 91), 2);

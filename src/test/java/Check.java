@@ -17,6 +17,10 @@ final class Check {
         System.out.println(what + " answered " + got + ", due is " + want);
     }
 
+    static void due(String what, String got, String want) {
+        due(what + ": " + got + " where due is " + want, got.equals(want) ? 1 : 0, 1);
+    }
+
     static void due(String what, boolean got, boolean want) {
         due(what, got ? 1 : 0, want ? 1 : 0);
     }
@@ -66,14 +70,19 @@ final class Check {
         return walls.match(feed(walls, text));
     }
 
-    /** A new object with a MATCH; a ; at the end, where other LINES may be put, is left away. */
+    /** A new object with a MATCH. */
     static SnowWalls told(String lines) {
         SnowWalls walls = new SnowWalls();
+        tell(walls, lines);
+        return walls;
+    }
+
+    /** Gives an object a MATCH; a ; at the end, where other LINES may be put, is left away. */
+    static void tell(SnowWalls walls, String lines) {
         String text = lines.endsWith(";") ? lines.substring(0, lines.length() - 1) : lines;
         if (match(walls, text) < 1) {
             due("match of " + text + ": fault " + walls.fault() + " at " + walls.where(), 0, 1);
         }
-        return walls;
     }
 
     /** The FAULT of a text and its place. */

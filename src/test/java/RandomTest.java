@@ -2,7 +2,7 @@ import java.util.Random;
 
 /** Runs of calls, drawn from given seeds, held against Oracle: texts, whole and spoilt, and then calls of all sorts. */
 public final class RandomTest {
-    private static final int RUNS = 6000;
+    private static final int RUNS = 9000;
     private static final String[] ACTS = {"flat", "high", "rolls", "makes", "goes", "ducks"};
 
     private final Random random;
@@ -32,13 +32,14 @@ public final class RandomTest {
     }
 
     private void run(int seed) {
-        while (calls < 430) {
+        // a text takes some 100 calls; no object is promised more than 512
+        while (calls < 400) {
             String text = text();
             if (random.nextInt(3) == 0) {
                 text = spoil(text);
             }
             feedBoth(text);
-            for (int i = upTo(100); i > 0 && calls < 500; i--) {
+            for (int i = upTo(60); i > 0 && calls < 503; i--) {
                 call(seed);
             }
         }
@@ -171,7 +172,7 @@ public final class RandomTest {
     // ---- calls
 
     private void same(String what, long got, long want) {
-        calls++;
+        calls += 2;
         Check.due(what, got, want);
         Check.due("trouble behind " + what, walls.trouble(), oracle.trouble());
     }

@@ -389,39 +389,50 @@ final class CallSentences {
         x.tenth();
     }
 
-    private static void marksOfAll() {
-        Doc.says("19", "All is as by a MARK (all MARKS stay): true;");
-        int[] tenths = {0, 1, 2, 6};
+    private static final int[] MARKED_BEHIND = {0, 1, 2, 6};
+
+    /** Four MARKS of the GAME of MARKED, with one act SEEN and a TAPE. */
+    private static SnowWalls fourMarks() {
         SnowWalls x = marked(0);
         for (int number = 0; number <= 3; number++) {
-            while (x.size(7) < tenths[number]) {
+            while (x.size(7) < MARKED_BEHIND[number]) {
                 pass(x);
             }
             Check.due("mark", x.mark(), number);
         }
+        x.see(1);
+        Check.feed(x, "snow");
+        return x;
+    }
+
+    private static void marksOfAll() {
+        Doc.says("19", "All is as by a MARK (all MARKS stay): true;");
+        SnowWalls x = fourMarks();
         Check.due("over at the last MARK", x.over(), 1);
         Check.due("c has WON", x.winner(), 1);
         Check.due("b is out", x.player(1, 3), 1);
         Check.due("a block was hit", x.sum(2), 1);
         Check.due("a HIT was MISSED", x.sum(4), 1);
-        x.see(1);
-        Check.feed(x, "snow");
-        for (int number : new int[] {3, 0, 2, 1, 1, 3, 0}) {
+        wentBack(x, 3, 0, 2);
+        wentBack(fourMarks(), 1, 1, 3, 0);
+        // in another GAME: x, balls, thrown, out, strong, sums, SEED, HOUR, and who WON are those of the MARK
+        x = fourMarks();
+        x.start(9);
+        wentBack(x, 3, 2);
+        x = fourMarks();
+        x.start(8);
+        wentBack(x, 1, 3);
+    }
+
+    private static void wentBack(SnowWalls x, int... numbers) {
+        for (int number : numbers) {
             x.match(-1);
             Check.due("back(" + number + ")", x.back(number), true);
             Check.due("trouble", x.trouble(), 0);
             Check.due("MARKS stay", x.size(10), 4);
             Check.due("SEEN stay", x.size(11), 1);
             Check.due("bytes stay", x.size(12), 20);
-            Check.due("by MARK " + number, Sight.ofGame(x), Sight.ofGame(marked(tenths[number])));
-        }
-        // a MARK of another GAME: x, balls, thrown, out, strong, sums, SEED, HOUR, and who WON are its own
-        x.back(3);
-        x.start(9);
-        for (int number : new int[] {3, 2}) {
-            x.back(number);
-            Check.due("by MARK " + number + " in another GAME", Sight.ofGame(x), Sight.ofGame(marked(tenths[number])));
-            x.start(8);
+            Check.due("by MARK " + number, Sight.ofGame(x), Sight.ofGame(marked(MARKED_BEHIND[number])));
         }
     }
 

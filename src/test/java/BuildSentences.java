@@ -23,7 +23,8 @@ final class BuildSentences {
     }
 
     private static void hides() {
-        Doc.says("III", "HIDES of SITES (bits): of each two, one of the other SIDE and one of theirs, neither out, those whose flat throw, first at second, "
+        Doc.says("III", "HIDES of SITES (bits): of each two, one of the other SIDE and one of theirs, neither out, those whose flat throw, "
+            + "first at second, "
             + "is HIDDEN by blocks that stand or a block at one of the SITES.");
         Doc.says("29", "HIDES;");
         String text = LAW + SNOW + Lines.left("a", 1, 5, 9, 0, 1) + Lines.left("c", 2, 5, 9, 0, 1) + Lines.right("b", 1, 9, 9, 0, 9)
@@ -105,7 +106,8 @@ final class BuildSentences {
         + Lines.left("c", 2, 5, 0, 0, 0) + Lines.right("z", 4, 19, 0, 0, 0);
 
     private static void build() {
-        Doc.says("III", "BUILD in so many minutes: SITES of a SIDE that take no more together, of most HIDES (no SITES: those of theirs HIDDEN by blocks that "
+        Doc.says("III", "BUILD in so many minutes: SITES of a SIDE that take no more together, of most HIDES (no SITES: those of theirs "
+            + "HIDDEN by blocks that "
             + "stand);");
         Doc.says("30", "BUILD of a SIDE: SITES as bits.");
         // in lanes 0, 1, 2, of 3, 4, 30 minutes; one of right
@@ -123,7 +125,8 @@ final class BuildSentences {
         x = Check.told(LANES + sites + Lines.block("w", "right", 0, 6, 1));
         Check.due("s hides no more than w", x.build(0, 3), 0);
         Check.due("u alone", x.build(0, 7), 4);
-        x = Check.told(LANES + sites + Lines.block("f", "right", 0, 6, 1) + Lines.block("g", "left", 1, 6, 1) + Lines.block("h", "left", 2, 6, 1));
+        x = Check.told(LANES + sites + Lines.block("f", "right", 0, 6, 1) + Lines.block("g", "left", 1, 6, 1)
+            + Lines.block("h", "left", 2, 6, 1));
         Check.due("nothing to hide", x.build(0, 180), 0);
         Check.due("right all the same", x.build(1, 180), 2);
         x = Check.told(LANES);
@@ -196,7 +199,8 @@ final class BuildSentences {
     }
 
     private static void duel() {
-        Doc.says("III", "DUEL of p at q: p flat or high, q stands, ducks, or sidesteps (its dodge counts twice): CHANCE of each; flat at one that ducks 0.");
+        Doc.says("III", "DUEL of p at q: p flat or high, q stands, ducks, or sidesteps (its dodge counts twice): CHANCE of each; flat at "
+            + "one that ducks 0.");
         Doc.says("31", "LEAST.");
         Doc.says("32", "MOST.");
         Doc.says("33", "MIX: how many of a hundred are flat.");
@@ -346,7 +350,8 @@ final class BuildSentences {
         x.start(Draws.seed(0, 89, 0, 89));
         x.tenth();
         Check.due("b alone needs one", x.supply(0, 1), 1);
-        x = Check.told(text.replace("0,5", "1,5").replace(Lines.left("c", 4, 0, 0, 0, 3), Lines.left("c", 1, 5, 0, 0, 3)) + "at 0 z flat c");
+        x = Check.told(text.replace("0,5", "1,5").replace(Lines.left("c", 4, 0, 0, 0, 3), Lines.left("c", 1, 5, 0, 0, 3))
+            + "at 0 z flat c");
         x.start(Draws.seed(0, 89, 0, 89));
         x.tenth();
         Check.due("c is out", x.player(2, 3), 1);
@@ -373,7 +378,8 @@ final class BuildSentences {
         for (int thaws : new int[] {0, 1, 2, 19, 20}) {
             for (int strong : new int[] {1, 2, 9}) {
                 // what is told isn't done: a doesn't leave the block; beyond the end of the GAME it thaws on
-                SnowWalls x = Check.told(Lines.law(3, 8, 9, thaws) + Lines.snow(5, 7, 2) + Lines.snow(6, 6, 2) + Lines.left("a", 1, 5, 0, 0, 1)
+                SnowWalls x = Check.told(Lines.law(3, 8, 9, thaws) + Lines.snow(5, 7, 2) + Lines.snow(6, 6, 2)
+                    + Lines.left("a", 1, 5, 0, 0, 1)
                     + Lines.right("b", 1, 9, 9, 0, 9) + Lines.block("v", "left", 1, 6, strong) + Lines.block("w", "left", 3, 6, strong)
                     + "at 2 a goes;at 2 b flat a");
                 for (int passed = 0; passed <= 2; passed++) {
@@ -392,7 +398,8 @@ final class BuildSentences {
             }
         }
         // behind the end of the GAME
-        SnowWalls x = Check.told(Lines.law(3, 8, 1, 2) + Lines.snow(5, 9, 2) + Lines.left("a", 1, 5, 0, 0, 1) + Lines.block("w", "left", 3, 6, 9));
+        SnowWalls x = Check.told(Lines.law(3, 8, 1, 2) + Lines.snow(5, 9, 2) + Lines.left("a", 1, 5, 0, 0, 1)
+            + Lines.block("w", "left", 3, 6, 9));
         x.finish();
         Check.due("behind the end", x.stands(0, 0), 9);
         Check.due("behind the end", x.stands(0, 1), 8);
@@ -429,7 +436,8 @@ final class BuildSentences {
         Check.due("hit, it doesn't stand", x.falls(0), 0);
         Check.due("the other stands", x.falls(1), -2);
         for (int wet = 0; wet <= 9; wet++) {
-            x = Check.told(Lines.law(3, 8, 9, 1) + Lines.snow(5, wet, 2) + Lines.left("a", 1, 5, 0, 0, 1) + Lines.block("v", "left", 2, 6, 9));
+            x = Check.told(Lines.law(3, 8, 9, 1) + Lines.snow(5, wet, 2) + Lines.left("a", 1, 5, 0, 0, 1)
+                + Lines.block("v", "left", 2, 6, 9));
             Check.due("wet " + wet, x.falls(0), wet >= 7 ? 9 : -2);
         }
         Doc.says("37", "NONE: 1.");

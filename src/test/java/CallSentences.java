@@ -465,7 +465,8 @@ final class CallSentences {
     }
 
     private static void league() {
-        Doc.says("III", "LEAGUE of n: GAMES from their beginning in this HOUR, the first with SEED as it is, the next with one more, and so on (mod 65,537).");
+        Doc.says("III", "LEAGUE of n: GAMES from their beginning in this HOUR, the first with SEED as it is, the next with one more, and "
+            + "so on (mod 65,537).");
         Doc.says("20", "How many GAMES of a LEAGUE of n (1 .. 60) a SIDE wins (2: neither).");
         for (int seed : new int[] {0, 1, 65476, 65477, 65478, 65500, 65535, 65536}) {
             for (int n : new int[] {1, 2, 3, 59, 60}) {
@@ -589,7 +590,8 @@ final class CallSentences {
     }
 
     private static void sizes() {
-        Doc.says("45", "0 players, 1 blocks, 2 sites, 3 prints, 4 guesses, 5 what is told of tenths, 6 snows, 7 TENTHS that passed, 8 SEED, 9 HOUR, 10 MARKS, "
+        Doc.says("45", "0 players, 1 blocks, 2 sites, 3 prints, 4 guesses, 5 what is told of tenths, 6 snows, 7 TENTHS that passed, 8 "
+            + "SEED, 9 HOUR, 10 MARKS, "
             + "11 SEEN, 12 bytes of THE TAPE.");
         int[] due = {4, 2, 3, 2, 2, 8, 2, 2, -1, 5, 2, 2, 20};
         SnowWalls x = Calls.State.MIDDLE.make();
@@ -603,7 +605,8 @@ final class CallSentences {
         Check.due("bytes", x.feed(0, 0, 0, 0, 0), x.size(12));
         // the most of each
         String ahead = LAW + SNOW + TWO;
-        String[] lines = {"player @ of left at 0,0 arm 0 dodge 0 balls 0;", "block @ of left at 0,0 strong 1;", "site @ of left at 0,0 takes 1;",
+        String[] lines = {"player @ of left at 0,0 arm 0 dodge 0 balls 0;", "block @ of left at 0,0 strong 1;",
+            "site @ of left at 0,0 takes 1;",
             "print of left at 0,0;", "guess @ weighs 1 flat 0 high 0;", "at 0 a makes;", "snow 9 wet 1 deep 1;"};
         int[] most = {8, 8, 6, 6, 4, 20, 5};
         for (int what = 0; what < lines.length; what++) {
@@ -646,7 +649,8 @@ final class CallSentences {
     }
 
     private static void trouble() {
-        Doc.says("IV", "TROUBLE of the latest call that may be refused (those of which a number is told here): 0 it wasn't; 1 there is none such; 2 a number; "
+        Doc.says("IV", "TROUBLE of the latest call that may be refused (those of which a number is told here): 0 it wasn't; 1 there is "
+            + "none such; 2 a number; "
             + "3 no room; 4 a FAULT; 5 not so; 6 there is none.");
         Doc.says("46", "TROUBLE.");
         Check.due("of a new object", new SnowWalls().trouble(), 0);
@@ -701,7 +705,8 @@ final class CallSentences {
     private static void matchRefused() {
         Calls.refusedBy("3");
         for (Calls.State state : Calls.State.values()) {
-            for (String text : new String[] {"?", "at 1 p", "referee 1 sees 1;referee", "snow 24", "print of left at 0,0;".repeat(7), "snow 1 wet 1 deep 1"}) {
+            for (String text : new String[] {"?", "at 1 p", "referee 1 sees 1;referee", "snow 24", "print of left at 0,0;".repeat(7),
+                "snow 1 wet 1 deep 1"}) {
                 SnowWalls x = state.make();
                 x.match(0);
                 Check.due("a FAULT", Check.match(x, text), -1);

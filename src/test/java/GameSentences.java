@@ -68,7 +68,8 @@ final class GameSentences {
     }
 
     private static void chanceFlat() {
-        Doc.says("II", "CHANCE of p at q, of a hundred (0 and 100 at most): flat 95 less 4 times FAR, 5 times arm more, 6 times dodge of q less,");
+        Doc.says("II", "CHANCE of p at q, of a hundred (0 and 100 at most): flat 95 less 4 times FAR, 5 times arm more, 6 times dodge of q "
+            + "less,");
         Check.due("nothing more or less", chance(0, 0, 0, false), 95);
         Check.due("FAR 1", chance(1, 0, 0, false), 91);
         Check.due("dodge 1", chance(0, 0, 1, false), 89);
@@ -239,7 +240,8 @@ final class GameSentences {
         Doc.says("II", "those that are told to duck in it do.");
         String text = LAW + SNOW + Lines.left("a", 0, 4, 9, 0, 9) + Lines.right("b", 0, 5, 9, 0, 9);
         int seed = Draws.seed(0, 89, 0, 89, 0, 89);
-        for (String acts : new String[] {"at 0 b ducks;at 0 a flat b", "at 0 a flat b;at 0 b ducks", "at 0 b ducks;at 0 b ducks;at 0 a flat b"}) {
+        for (String acts : new String[] {"at 0 b ducks;at 0 a flat b", "at 0 a flat b;at 0 b ducks",
+            "at 0 b ducks;at 0 b ducks;at 0 a flat b"}) {
             SnowWalls x = Check.told(text + acts);
             x.start(seed);
             x.tenth();
@@ -286,7 +288,8 @@ final class GameSentences {
     }
 
     private static void paired() {
-        Doc.says("II", "PAIRED is a player at whom in it some of the other SIDE that aren't out and have a ball (as it begins) are told to throw flat, "
+        Doc.says("II", "PAIRED is a player at whom in it some of the other SIDE that aren't out and have a ball (as it begins) are told to "
+            + "throw flat, "
             + "and some high: for throws at it dodge counts 0.");
         paired("at 0 a flat b", false, false);
         paired("at 0 a high b", true, false);
@@ -432,7 +435,8 @@ final class GameSentences {
             }
         }
         // of the snow in this HOUR
-        SnowWalls x = Check.told(LAW + Lines.snow(5, 5, 0) + Lines.snow(6, 5, 1) + Lines.left("a", 0, 4, 0, 0, 0) + "at 0 a makes;at 1 a makes");
+        SnowWalls x = Check.told(LAW + Lines.snow(5, 5, 0) + Lines.snow(6, 5, 1) + Lines.left("a", 0, 4, 0, 0, 0)
+            + "at 0 a makes;at 1 a makes");
         x.hour(6);
         x.tenth();
         Check.due("HOUR 6", x.player(0, 1), 1);
@@ -468,7 +472,8 @@ final class GameSentences {
         String law = Lines.law(3, 8, 9, 0) + SNOW;
         // one that has more than it may carry rolls them away
         rolled(law + Lines.left("a", 0, 0, 0, 0, 9) + Lines.left("b", 4, 19, 0, 0, 2) + "at 0 a rolls b;at 0 a rolls b", 8, 3);
-        rolled(law + Lines.left("a", 0, 0, 0, 0, 2) + Lines.left("b", 4, 19, 0, 0, 0) + "at 0 a rolls b;at 0 a rolls b;at 0 a rolls b", 0, 2);
+        rolled(law + Lines.left("a", 0, 0, 0, 0, 2) + Lines.left("b", 4, 19, 0, 0, 0) + "at 0 a rolls b;at 0 a rolls b;at 0 a rolls b", 0,
+            2);
         rolled(law + Lines.left("a", 0, 0, 0, 0, 2) + Lines.left("b", 4, 19, 0, 0, 0) + "at 0 a rolls b;at 0 b rolls a", 2, 0);
     }
 

@@ -70,7 +70,8 @@ final class OddsSentences {
         Doc.says("III", "ODDS of a throw of p at q: CHANCE (q stands) times HOLD, of 10,000.");
         Doc.says("24", "ODDS.");
         // CHANCES of 100 and 0; b ducks in this TENTH, which doesn't count
-        SnowWalls x = Check.told(LAW + SNOWS + Lines.left("a", 0, 0, 9, 9, 3) + Lines.right("b", 0, 1, 0, 0, 1) + Lines.right("c", 4, 19, 0, 9, 1)
+        SnowWalls x = Check.told(LAW + SNOWS + Lines.left("a", 0, 0, 9, 9, 3) + Lines.right("b", 0, 1, 0, 0, 1)
+            + Lines.right("c", 4, 19, 0, 9, 1)
             + "at 0 b ducks");
         Check.due("100 of 90", x.odds(0, 1, false), 9000);
         Check.due("high, 100 of 90", x.odds(0, 1, true), 9000);
@@ -124,7 +125,8 @@ final class OddsSentences {
             Check.due("PAIR of dodge " + dodge, x.pair(0, 1, 2), 100000000 - 2080 * 4060);
         }
         // with dodge both CHANCES are 0
-        SnowWalls x = Check.told(LAW + SNOWS + Lines.left("p", 0, 0, 0, 0, 1) + Lines.left("r", 0, 0, 0, 0, 1) + Lines.right("q", 4, 14, 0, 9, 1));
+        SnowWalls x = Check.told(LAW + SNOWS + Lines.left("p", 0, 0, 0, 0, 1) + Lines.left("r", 0, 0, 0, 0, 1)
+            + Lines.right("q", 4, 14, 0, 9, 1));
         Check.due("all of it", x.gain(0, 1, 2), 100000000 - (10000 - 90 * 23) * (10000 - 90 * 16));
         Calls.refusedBy("26");
         Calls.leavesAll("26");
@@ -139,7 +141,8 @@ final class OddsSentences {
     }
 
     private static void dash() {
-        Doc.says("III", "DASH: so many run, so many throws, each hits by c of a hundred one that still runs: of 100 to the throws the ways in which "
+        Doc.says("III", "DASH: so many run, so many throws, each hits by c of a hundred one that still runs: of 100 to the throws the ways "
+            + "in which "
             + "fewer are hit than run.");
         Doc.says("27", "DASH.");
         SnowWalls x = new SnowWalls();

@@ -67,7 +67,8 @@ final class PrintSentences {
             }
         }
         // one that is out has prints all the same
-        SnowWalls x = Check.told(LAW + SNOW + Lines.left("a", 1, 5, 0, 0, 0) + Lines.left("c", 4, 5, 0, 0, 0) + Lines.right("b", 1, 5, 9, 0, 1)
+        SnowWalls x = Check.told(LAW + SNOW + Lines.left("a", 1, 5, 0, 0, 0) + Lines.left("c", 4, 5, 0, 0, 0)
+            + Lines.right("b", 1, 5, 9, 0, 1)
             + Lines.print("left", 1, 5) + "at 0 b flat a");
         x.start(Draws.seed(0, 89, 0, 89));
         x.tenth();

@@ -157,8 +157,10 @@ final class TenthSentences {
     private static void hits() {
         Doc.says("II", "Else HIT if a draw mod 100 is below CHANCE as it was ahead of this throw (no draw if that is 0).");
         // lane, x of b, arm, dodge: CHANCES flat of 0 and 0, 1, 50 and so on
-        int[][] flat = {{4, 19, 0, 9, 0}, {4, 19, 3, 3, 0}, {4, 19, 2, 2, 1}, {0, 0, 0, 1, 89}, {0, 0, 2, 1, 99}, {0, 0, 1, 0, 100}, {0, 0, 9, 0, 100}};
-        int[][] high = {{4, 19, 0, 9, 0}, {4, 18, 4, 5, 0}, {4, 19, 5, 5, 1}, {0, 0, 0, 1, 66}, {0, 1, 8, 0, 99}, {0, 2, 9, 0, 100}, {0, 0, 9, 0, 100}};
+        int[][] flat = {{4, 19, 0, 9, 0}, {4, 19, 3, 3, 0}, {4, 19, 2, 2, 1}, {0, 0, 0, 1, 89}, {0, 0, 2, 1, 99}, {0, 0, 1, 0, 100},
+            {0, 0, 9, 0, 100}};
+        int[][] high = {{4, 19, 0, 9, 0}, {4, 18, 4, 5, 0}, {4, 19, 5, 5, 1}, {0, 0, 0, 1, 66}, {0, 1, 8, 0, 99}, {0, 2, 9, 0, 100},
+            {0, 0, 9, 0, 100}};
         for (int[] of : flat) {
             hits("flat", of);
         }
@@ -213,7 +215,8 @@ final class TenthSentences {
     }
 
     private static void seen() {
-        Doc.says("II", "A HIT is SEEN if a draw mod 100 is below 100 less sees times how far the x of the one that is hit is from the referee's "
+        Doc.says("II", "A HIT is SEEN if a draw mod 100 is below 100 less sees times how far the x of the one that is hit is from the "
+            + "referee's "
             + "(0 at least; no draw if that is 100, or there is no referee): it is out;");
         // x of b, x and sees of the referee, what that comes to
         int[][] cases = {{9, 9, 9, 100}, {12, 0, 0, 100}, {9, 8, 1, 99}, {9, 10, 1, 99}, {10, 0, 5, 50}, {11, 0, 9, 1}, {8, 19, 9, 1},
@@ -319,7 +322,8 @@ final class TenthSentences {
         // in the TENTH that ends the GAME, too: by one that WON, by nobody left, by tenths
         String ends = text.replace("tenths 9", "tenths 1");
         Check.due("in the last TENTH", played(ends, 0).block(0), 2);
-        SnowWalls x = played(text.replace("1,9", "1,5").replace("b of right at 1,5 arm 0 dodge 0 balls 0", "b of right at 1,5 arm 9 dodge 0 balls 1")
+        SnowWalls x = played(text.replace("1,9", "1,5").replace("b of right at 1,5 arm 0 dodge 0 balls 0",
+            "b of right at 1,5 arm 9 dodge 0 balls 1")
             + "at 0 b flat a", Draws.seed(0, 69, 0, 89));
         Check.due("nobody left", x.over(), 1);
         Check.due("thawed, but not LEANT on", x.block(0), 3);
@@ -465,7 +469,8 @@ final class TenthSentences {
         Doc.says("II", "WINNER: who WON (the first, by LINES);");
         String text = Lines.law(3, 8, 3, 0) + SNOW + Lines.left("a", 0, 18, 9, 0, 2) + Lines.right("b", 0, 1, 9, 0, 2)
             + Lines.left("c", 0, 18, 0, 0, 0) + Lines.right("d", 0, 1, 0, 0, 0) + Lines.right("e", 0, 18, 0, 0, 0);
-        String[] acts = {"at 2 a goes;at 2 b goes", "at 2 b goes;at 2 a goes", "at 2 b goes;at 2 a goes;at 2 c goes", "at 2 c goes;at 2 d goes"};
+        String[] acts = {"at 2 a goes;at 2 b goes", "at 2 b goes;at 2 a goes", "at 2 b goes;at 2 a goes;at 2 c goes",
+            "at 2 c goes;at 2 d goes"};
         int[] due = {0, 1, 1, 0};
         for (int i = 0; i < acts.length; i++) {
             SnowWalls x = Check.told(text + acts[i]);

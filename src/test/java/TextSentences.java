@@ -378,7 +378,8 @@ final class TextSentences {
     }
 
     private static void acts() {
-        Doc.says("I", "at WHOLE PLAYER ACT (a tenth 0 .. 98; up to 20). ACT: flat PLAYER, high PLAYER, rolls PLAYER, makes, goes, or ducks");
+        Doc.says("I", "at WHOLE PLAYER ACT (a tenth 0 .. 98; up to 20). ACT: flat PLAYER, high PLAYER, rolls PLAYER, makes, goes, or "
+            + "ducks");
         String[] acts = {"p flat p", "p high p", "p rolls p", "p makes", "p goes", "p ducks"};
         for (String act : acts) {
             whole(LEAST + ";at 0 " + act, 1);
@@ -443,7 +444,8 @@ final class TextSentences {
     }
 
     private static void names() {
-        Doc.says("I", "NAMES are WORDS but law, snow, referee, block, player, site, print, at, guess, left, right, flat, high, rolls, makes, "
+        Doc.says("I", "NAMES are WORDS but law, snow, referee, block, player, site, print, at, guess, left, right, flat, high, rolls, "
+            + "makes, "
             + "goes, ducks;");
         String[] taken = {"law", "snow", "referee", "block", "player", "site", "print", "at", "guess", "left", "right", "flat",
             "high", "rolls", "makes", "goes", "ducks"};
@@ -498,7 +500,8 @@ final class TextSentences {
     // ---- Term I: FAULTS
 
     private static void faults() {
-        Doc.says("I", "FAULTS, the first that is met from the left, of one place the least number: 1 FORM: the first byte that begins no TOKEN, "
+        Doc.says("I", "FAULTS, the first that is met from the left, of one place the least number: 1 FORM: the first byte that begins no "
+            + "TOKEN, "
             + "or TOKEN with which no MATCH goes on (the end: its place).");
         // a LINE with each FAULT, behind players p and q and what leaves room for no print; its place in it
         String ahead = LEAST + ";player q of right at 0,0 arm 0 dodge 0 balls 0" + ";print of left at 0,0".repeat(6) + ";";
